@@ -577,17 +577,11 @@ public final class RuleByLot {
             } else if (place >= tape.length) {
                 place = tape.length;
                 sort = AT_END;
-            } else {
-                readToken(tape.at(place));
-            }
-        }
-
-        private void readToken(int first) {
-            behind = place + 1;
-            if (isLetter(first) || isDigit(first)) {
+            } else if (isLetter(tape.at(place)) || isDigit(tape.at(place))) {
                 readRun();
             } else {
-                sort = isSign(first) ? first : BROKEN;
+                behind = place + 1;
+                sort = isSign(tape.at(place)) ? tape.at(place) : BROKEN;
             }
         }
 
@@ -1082,11 +1076,11 @@ public final class RuleByLot {
         }
 
         int mustToday() {
-            return house.has(CHAPTERS, holds) ? house.must[holds] : 0;
+            return isWithin(holds, 0, MOST_CHAPTERS - 1) ? house.must[holds] : 0;
         }
 
         int barredToday() {
-            return house.has(CHAPTERS, holds) ? house.bars[holds] : 0;
+            return isWithin(holds, 0, MOST_CHAPTERS - 1) ? house.bars[holds] : 0;
         }
 
         int deedsLeft(int m) {
@@ -1227,10 +1221,6 @@ public final class RuleByLot {
             return holds != NONE || whyNoDraw() == 0;
         }
 
-        int daysLeft() {
-            return LAST_DAY - day;
-        }
-
         /** Lives one day that there is; what the seed is for the next one. */
         private int passDay(int seed) {
             int x = seed;
@@ -1250,8 +1240,9 @@ public final class RuleByLot {
             if (house.atone != NONE && penances[m] > 0) {
                 wanted |= 1 << house.atone;
             }
+            int can = wanted & ~barredToday() & ~today[m];
             for (int d = 0; d < house.counts[DEEDS]; d++) {
-                if (hasBit(wanted, d) && whyNoDeed(m, d) == 0) {
+                if (hasBit(can, d)) {
                     doDeed(m, d);
                 }
             }
@@ -1420,8 +1411,9 @@ public final class RuleByLot {
             int lived = 0;
             int why = 0;
             for (int line = 0; line < lines && why == 0; line++) {
-                why = liveLine(line, life);
+                why = whyWrong(line, life);
                 if (why == 0) {
+                    liveLine(line, life);
                     lived++;
                 }
             }
@@ -1433,60 +1425,35 @@ public final class RuleByLot {
             return why == 0 ? NONE : lived;
         }
 
-        /** Why the line is wrong; one that is not is lived. */
-        private int liveLine(int line, Life life) {
+        private int whyWrong(int line, Life life) {
             switch (acts[line]) {
-                case DRAW: return liveDraw(life, objects[line]);
-                case FOLD: return liveFold(life, objects[line]);
-                case DOES: return liveDeed(life, monks[line], objects[line]);
-                case NIGHT: return liveNight(life);
-                default: return liveDays(life, objects[line]);
+                case DRAW: return life.whyNoDraw();
+                case FOLD: return withKind(WHY_FOLD, life.whyNoFold(objects[line]));
+                case DOES: return withKind(WHY_DEED, life.whyNoDeed(monks[line], objects[line]));
+                case NIGHT: return life.holds == NONE ? WHY_NIGHT : 0;
+                default: return whyNoDays(life, objects[line]);
             }
         }
 
-        private static int liveDraw(Life life, int seed) {
-            int why = life.whyNoDraw();
-            if (why == 0) {
-                life.drawBy(nextSeed(seed));
-            }
-            return why;
+        private static int withKind(int kind, int why) {
+            return why == 0 ? 0 : kind + why;
         }
 
-        private static int liveFold(Life life, int c) {
-            int why = life.whyNoFold(c);
-            if (why != 0) {
-                return WHY_FOLD + why;
-            }
-            life.hold(c);
-            return 0;
-        }
-
-        private static int liveDeed(Life life, int m, int d) {
-            int why = life.whyNoDeed(m, d);
-            if (why != 0) {
-                return WHY_DEED + why;
-            }
-            life.doDeed(m, d);
-            return 0;
-        }
-
-        private static int liveNight(Life life) {
-            if (life.holds == NONE) {
-                return WHY_NIGHT;
-            }
-            life.passNight();
-            return 0;
-        }
-
-        private static int liveDays(Life life, int n) {
+        private static int whyNoDays(Life life, int n) {
             if (life.house.hasNoChapters()) {
                 return WHY_NO_CHAPTERS;
             }
-            if (life.daysLeft() < n) {
-                return WHY_FEW_DAYS;
+            return LAST_DAY - life.day < n ? WHY_FEW_DAYS : 0;
+        }
+
+        private void liveLine(int line, Life life) {
+            switch (acts[line]) {
+                case DRAW: life.drawBy(nextSeed(objects[line])); break;
+                case FOLD: life.hold(objects[line]); break;
+                case DOES: life.doDeed(monks[line], objects[line]); break;
+                case NIGHT: life.passNight(); break;
+                default: life.passDays(objects[line], objects[line]); break;
             }
-            life.passDays(n, n);
-            return 0;
         }
     }
 
@@ -1580,30 +1547,24 @@ public final class RuleByLot {
                 return in.refuse(FAULT_TOO_MANY);
             }
             ones++;
-            if (in.sort == '(') {
-                in.step();
-                return readCondition(in, house, within + 1) && in.takeSign(')');
-            }
-            if (in.word == NOT) {
-                in.step();
-                if (!readOne(in, house, within + 1)) {
-                    return false;
-                }
-                addPart(NOT, 0, 0);
-                return true;
-            }
-            return readPlainOne(in, house);
-        }
-
-        private boolean readPlainOne(Reader in, House house) {
             int part = in.word;
             in.step();
             switch (part) {
+                case NONE: // the bracket, which is no word
+                    return readCondition(in, house, within + 1) && in.takeSign(')');
+                case NOT:
+                    if (!readOne(in, house, within + 1)) {
+                        return false;
+                    }
+                    addPart(NOT, 0, 0);
+                    return true;
                 case DONE:
-                case OWED: return readMonk(in, house, part);
+                case OWED:
+                    return readMonk(in, house, part);
                 case LEFT:
                 case MUSTS:
-                case NUMBER: return readComparison(in, part);
+                case NUMBER:
+                    return readComparison(in, part);
                 default:
                     addPart(part, 0, 0);
                     return true;

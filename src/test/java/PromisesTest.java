@@ -145,6 +145,7 @@ public final class PromisesTest {
         x.fold(1);
         x.night();
         x.draw(5);
+        x.does(0, 2);
         Checks.sentence(x, "due");
         x.image(1);
         int day = x.now(0);
@@ -162,6 +163,7 @@ public final class PromisesTest {
         due("a new HOUSE: all WORK", x.now(6), 6);
         due("a new HOUSE: no SENTENCE", x.said(NONE), NONE);
         due("a new HOUSE: none drawn", x.chapter(1, 4), 0);
+        due("a new HOUSE: none done", x.monk(0, 1) + x.monk(0, 4), 0);
         due("a new HOUSE: none ago", x.ago(0), NONE);
         due("a new HOUSE: nothing to undo", x.undo(), NONE);
         due("images stay", x.restore(1), true);
@@ -207,6 +209,10 @@ public final class PromisesTest {
         houseFault("deed a;deed a;", 12, 3);
         houseFault("deed a;monk a;", 12, 3);
         houseFault("deed a;chapter a 1;", 15, 3);
+        houseFault("monk a;deed a;", 12, 3);
+        houseFault("monk a;chapter a 1;", 15, 3);
+        houseFault("chapter a 1;deed a;", 17, 3);
+        houseFault("chapter a 1;monk a;", 17, 3);
         houseFault("chapter c 0;", 10, 2);
         houseFault("chapter c 10;", 10, 2);
         houseFault("chapter c 1000;", 10, 1);
@@ -258,6 +264,11 @@ public final class PromisesTest {
         houseFault(blanks(894) + "deed abcdefg;", 900, 1);
         houseFault(blanks(895) + "deed abcdefgh;", 900, 1);
         houseFault("once;once;" + blanks(920), 5, 3);
+        // What begins at the 900th byte is not read, so its own fault does not count.
+        houseFault("deed a;" + blanks(888) + "deed a;", 900, 1);
+        houseFault("deed a;" + blanks(887) + "deed a;", 899, 3);
+        houseFault("once;" + blanks(895) + "once;", 900, 1);
+        houseFault("once;" + blanks(894) + "once;", 899, 3);
     }
 
     // Promise 5
@@ -736,6 +747,15 @@ public final class PromisesTest {
         // Three days for b by ca, one for a by cb.
         due("most(4) of ten", y.most(4), 4);
         due("first", y.mostAt(0) * 1000 + y.mostAt(1) * 100 + y.mostAt(2) * 10 + y.mostAt(3), 1);
+        StringBuilder others = new StringBuilder();
+        for (char c = 'a'; c < 'j'; c++) {
+            others.append("bars c").append(c).append(" a;");
+        }
+        RuleByLot last = Checks.with("deed a;monk m;work m a 20;" + many("chapter", 10, " 1") + others);
+        due("most(4) by the last alone", last.most(4), 4);
+        for (int i = 0; i < 4; i++) {
+            due("the last", last.mostAt(i), 9);
+        }
         RuleByLot z = Checks.with(PEOPLE + CHAPTERS);
         due("most of no WORK", z.most(2), 0);
         due("the first then", z.mostAt(0) + z.mostAt(1), 0);
@@ -815,6 +835,14 @@ public final class PromisesTest {
         due("watch() of three", x.watch(), 2);
         fitsOf(x, 9, 1);
         due("watch() behind a fits() of NONE", x.watch(), 2);
+        fitsOf(x, 1, 0, 2, 0, 2, 1);
+        due("watch() by a fits() of none", x.watch(), 2);
+        Checks.house(x, "deed a;deed b;deed c;chapter k 1;chapter l 1;bars l a;");
+        due("fits() of the first alone", fitsOf(x, 0, 1), 1);
+        due("watch() of the first alone", x.watch(), 0);
+        RuleByLot y = Checks.with("deed a;" + many("chapter", 10, " 1"));
+        due("fits() of ten", fitsOf(y, 0, 1), 1023);
+        due("watch() of ten alike", y.watch(), 0);
     }
 
     // Promise 28
@@ -911,6 +939,7 @@ public final class PromisesTest {
         due("odds of 0 seeds", x.odds(0, 1, 0, 1), NONE);
         due("odds of 31 seeds", x.odds(0, 1, 31, 1), NONE);
         due("odds without CHAPTERS", Checks.with(PEOPLE).odds(0, 1, 1, 1), NONE);
+        due("odds of one seed, one DAY", Checks.with("deed a;monk m;chapter c 1;work m a 1;").odds(0, 1, 1, 1), 1);
         due("odds without WORK", Checks.with(PEOPLE + CHAPTERS).odds(0, 1, 30, 1), 30);
         due("odds in 30 DAYS", x.odds(1, 30, 30, Integer.MAX_VALUE - 3), 30);
         x.fold(1);
@@ -937,6 +966,7 @@ public final class PromisesTest {
     private static void book() {
         RuleByLot x = Checks.with(ONCE);
         dueBook(x, "", 0, NONE, 0, 0, 0, 0);
+        dueBook(x, "draw 0;", 0, NONE, 0, 1, 0, 0);
         dueBook(x, "fold rest;hugo does sleep;night;day 2;", 0, NONE, 0, 4, 3);
         due("all stays as it is", x.now(0) * 100 + x.now(4) * 10 + x.now(6), 66);
         due("tape empty then", x.count(5), 0);
