@@ -1130,6 +1130,8 @@ public final class PromisesTest {
         sentenceFault("due or ".repeat(20) + "not", 140, 4);
         sentenceFault("due or ".repeat(20) + "or", 140, 1);
         sentenceFault("due or ".repeat(20) + "wash", 140, 1);
+        sentenceFault("due and ".repeat(20) + "due", 160, 4);
+        sentenceFault("due and ".repeat(20) + "wash", 160, 1);
         sentenceFault(blanks(201), 200, 1);
         sentenceFault(blanks(198) + "due", 200, 1);
         sentenceFault("due" + blanks(198), 200, 1);
