@@ -1038,7 +1038,7 @@ public final class RuleByLot {
         }
 
         void begin() {
-            fillBox();
+            System.arraycopy(house.slips, 0, box, 0, MOST_CHAPTERS);
             System.arraycopy(house.work, 0, left, 0, MOST_MONKS * MOST_DEEDS);
             Arrays.fill(drawn, 0);
             Arrays.fill(penances, 0);
@@ -1061,10 +1061,6 @@ public final class RuleByLot {
             pastDraws = other.pastDraws;
             day = other.day;
             holds = other.holds;
-        }
-
-        private void fillBox() {
-            System.arraycopy(house.slips, 0, box, 0, MOST_CHAPTERS);
         }
 
         int slipsInBox() {
@@ -1185,7 +1181,7 @@ public final class RuleByLot {
             if (house.once) {
                 box[c]--;
                 if (slipsInBox() == 0) {
-                    fillBox();
+                    System.arraycopy(house.slips, 0, box, 0, MOST_CHAPTERS);
                 }
             }
         }

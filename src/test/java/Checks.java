@@ -101,6 +101,102 @@ final class Checks {
         return x;
     }
 
+    private static String shown(String text) {
+        return "'" + text.strip() + "' (" + text.length() + " bytes)";
+    }
+
+    static void houseTaken(String text, int lines) {
+        RuleByLot x = new RuleByLot();
+        due("house() of " + shown(text), house(x, text), lines);
+        due("fault() of " + shown(text), x.fault(), 0);
+    }
+
+    static void houseRefused(String text, int place, int kind) {
+        RuleByLot x = new RuleByLot();
+        due("house() of " + shown(text), house(x, text), -1 - place);
+        due("fault() of " + shown(text), x.fault(), kind);
+    }
+
+    /** The book is judged alone: its lines may be wrong, its text may not. */
+    static void bookTaken(String house, String text) {
+        RuleByLot x = with(house);
+        due("a FAULT of the BOOK " + shown(text), book(x, text, 0) < RuleByLot.NONE, false);
+        due("fault() of " + shown(text), x.fault(), 0);
+    }
+
+    static void bookRefused(String house, String text, int place, int kind) {
+        RuleByLot x = with(house);
+        due("book() of " + shown(text), book(x, text, 0), -2 - place);
+        due("fault() of " + shown(text), x.fault(), kind);
+    }
+
+    static void sentenceTaken(String house, String text, int ones) {
+        RuleByLot x = with(house);
+        due("sentence() of " + shown(text), sentence(x, text), ones);
+        due("fault() of " + shown(text), x.fault(), 0);
+    }
+
+    static void sentenceRefused(String house, String text, int place, int kind) {
+        RuleByLot x = with(house);
+        due("sentence() of " + shown(text), sentence(x, text), -1 - place);
+        due("fault() of " + shown(text), x.fault(), kind);
+    }
+
+    /** All that can be seen of an object, by some 120 calls that ask and change nothing. */
+    static String seenAll(RuleByLot x) {
+        return seen(x) + seenOfLatest(x) + x.count(5);
+    }
+
+    /** What an image keeps: the house, all that is so and the sentence. */
+    static String seen(RuleByLot x) {
+        StringBuilder all = new StringBuilder();
+        for (int what = 0; what < 7; what++) {
+            all.append(x.now(what)).append(' ');
+        }
+        for (int what = 0; what < 5; what++) {
+            all.append(x.count(what)).append(' ');
+        }
+        for (int c = 0; c < x.count(2); c++) {
+            for (int what = 0; what < 5; what++) {
+                all.append(x.chapter(c, what)).append(' ');
+            }
+            all.append(x.waits(c)).append(' ').append(x.quarrels(c)).append(", ");
+        }
+        for (int m = 0; m < x.count(1); m++) {
+            for (int what = 0; what < 5; what++) {
+                all.append(x.monk(m, what)).append(' ');
+            }
+            for (int d = 0; d < x.count(0); d++) {
+                all.append(x.left(m, d)).append(' ');
+            }
+        }
+        for (int k = 0; k < 16; k++) {
+            all.append(x.ago(k)).append(' ');
+        }
+        for (int k = -1; k < x.count(0); k++) {
+            all.append(x.said(k)).append(' ');
+        }
+        return all.append(x.free()).toString();
+    }
+
+    /** What calls told last: it is no part of the house, of what is so or of the sentence. */
+    static String seenOfLatest(RuleByLot x) {
+        StringBuilder all = new StringBuilder();
+        all.append(' ').append(x.fault()).append(' ').append(x.covering()).append(' ').append(x.watch()).append(' ');
+        all.append(answerOf(() -> x.chance(0))).append('/').append(answerOf(() -> x.chance(1))).append(' ');
+        for (int i = 0; i < 4; i++) {
+            all.append(x.mostAt(i)).append(' ').append(x.told(i)).append(' ');
+        }
+        for (int b = x.byteAt(0), i = 1; b != RuleByLot.NONE; b = x.byteAt(i), i++) {
+            all.append((char) b);
+        }
+        return all.append(' ').toString();
+    }
+
+    static void dueText(String what, String got, String want) {
+        due(what + " is '" + got + "', due is '" + want + "'", got.equals(want), true);
+    }
+
     static String notice(RuleByLot x) {
         StringBuilder text = new StringBuilder();
         int length = x.notice();
