@@ -199,7 +199,7 @@ public final class RuleByLot {
             return -1 - why;
         }
         undone.keep(life);
-        life.drawBy(nextSeed(seed));
+        life.hold(life.chapterBy(nextSeed(seed)));
         return life.holds;
     }
 
@@ -1072,11 +1072,11 @@ public final class RuleByLot {
         }
 
         int mustToday() {
-            return isWithin(holds, 0, MOST_CHAPTERS - 1) ? house.must[holds] : 0;
+            return holds >= 0 && holds < MOST_CHAPTERS ? house.must[holds] : 0;
         }
 
         int barredToday() {
-            return isWithin(holds, 0, MOST_CHAPTERS - 1) ? house.bars[holds] : 0;
+            return holds >= 0 && holds < MOST_CHAPTERS ? house.bars[holds] : 0;
         }
 
         int deedsLeft(int m) {
@@ -1158,22 +1158,26 @@ public final class RuleByLot {
             return hasBit(today[m], d) ? 3 : 0;
         }
 
-        void drawBy(int x) {
+        /** Whose slip is drawn from the box by x; NONE, if it has none. */
+        int chapterBy(int x) {
             int slips = slipsInBox();
             if (slips <= 0) {
-                return;
+                return NONE;
             }
             int slip = (x >>> 8) % slips;
             for (int c = 0; c < house.counts[CHAPTERS]; c++) {
                 if (slip < box[c]) {
-                    hold(c);
-                    return;
+                    return c;
                 }
                 slip -= box[c];
             }
+            return NONE;
         }
 
         void hold(int c) {
+            if (c < 0 || c >= MOST_CHAPTERS) {
+                return;
+            }
             holds = c;
             drawn[c]++;
             past[pastDraws % PAST_DRAWS] = c;
@@ -1222,7 +1226,7 @@ public final class RuleByLot {
             int x = seed;
             if (holds == NONE) {
                 x = nextSeed(seed);
-                drawBy(x);
+                hold(chapterBy(x));
             }
             for (int m = 0; m < house.counts[MONKS]; m++) {
                 doWanted(m);
@@ -1444,7 +1448,7 @@ public final class RuleByLot {
 
         private void liveLine(int line, Life life) {
             switch (acts[line]) {
-                case DRAW: life.drawBy(nextSeed(objects[line])); break;
+                case DRAW: life.hold(life.chapterBy(nextSeed(objects[line]))); break;
                 case FOLD: life.hold(objects[line]); break;
                 case DOES: life.doDeed(monks[line], objects[line]); break;
                 case NIGHT: life.passNight(); break;

@@ -6,6 +6,8 @@ import java.util.Random;
 public final class ModelTest {
     private static final int RUNS = 1500;
     private static final int CALLS = 512;
+    // No step of a run makes more calls than this, so that no object is used for more than it may be.
+    private static final int LONGEST_STEP = 150;
     private static final String[] NAMES = {
         "sleep", "wash", "sing", "pray", "cook", "dig", "read", "copy", "fast", "otto", "hugo", "bruno",
         "anselm", "emil", "pots", "rest", "songs", "quiet", "fields", "bread", "ink", "bells", "feasts",
@@ -56,7 +58,7 @@ public final class ModelTest {
                 ask("days(30, " + seed + ")", () -> x.days(30, seed), () -> y.days(30, seed));
             }
         }
-        while (made < CALLS - 60 && same) {
+        while (made < CALLS - LONGEST_STEP && same) {
             step(tame);
         }
     }

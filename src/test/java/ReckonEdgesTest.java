@@ -321,6 +321,9 @@ public final class ReckonEdgesTest {
         RuleByLot last = Checks.with("deed a;monk m;" + chapters(10, 1) + all + "work m a 20;");
         dueMost(last, 4, 4, 9, 9, 9, 9);
         dueMost(last, 1, 1, 9);
+        // Without WORK all are alike, whatever was chosen ahead of that.
+        Checks.house(last, "deed a;monk m;" + chapters(10, 1));
+        dueMost(last, 4, 0, 0, 0, 0, 0);
     }
 
     // "CHAPTERS drawn as one likes (any of them, as often as one likes) so that all MONKS together .."

@@ -423,6 +423,13 @@ public final class TextEdgesTest {
         refused(deeds + "deed 1;", deeds.length(), 4);
         refused(monks + "monk", monks.length(), 4);
         refused(chapters + "chapter x 0;", chapters.length(), 4);
+        // In a full house, too, what is told is found and what is not told is not.
+        taken(chapters + deeds + monks, 22);
+        refused(chapters + "deed cj;", chapters.length() + 5, 3);
+        refused(chapters + "must x", chapters.length() + 5, 3);
+        refused(deeds + "atone x", deeds.length() + 6, 3);
+        refused(monks + "work x", monks.length() + 5, 3);
+        refused(monks + "chapter md 1;", monks.length() + 8, 3);
         taken(all + "atone dh;must cj dh;bars cj da;work md dh 20;once;", 27);
     }
 

@@ -25,9 +25,9 @@ public final class WildTest {
                 .filter(m -> Modifier.isPublic(m.getModifiers()))
                 .sorted(Comparator.comparing(Method::getName)).toArray(Method[]::new);
         Random lot = new Random(5);
-        for (int run = 0; run < 400; run++) {
+        for (int run = 0; run < 1000; run++) {
             RuleByLot x = new RuleByLot();
-            for (int i = 0; i < 400; i++) {
+            for (int i = 0; i < 160; i++) {
                 if (lot.nextInt(4) == 0) {
                     x.end(0);
                     Checks.put(x, TEXTS[lot.nextInt(TEXTS.length)]);
