@@ -54,8 +54,10 @@ public final class CallsTest {
         }
         Checks.due("only " + CALLS.size() + " methods seen", CALLS.size() > 150, true);
         Checks.due("methods of the face " + FACE, FACE.size(), 38);
-        rings();
-        depth();
+        // Through a ring that is not known a chain would never end.
+        if (rings()) {
+            depth();
+        }
         Checks.finish("CallsTest");
     }
 
@@ -134,10 +136,14 @@ public final class CallsTest {
         return all;
     }
 
-    private static void rings() {
+    private static boolean rings() {
+        boolean known = true;
         for (String method : CALLS.keySet()) {
-            Checks.due(method + " comes back to itself", reached(method).contains(method), RING.contains(method));
+            boolean comesBack = reached(method).contains(method);
+            Checks.due(method + " comes back to itself", comesBack, RING.contains(method));
+            known &= comesBack == RING.contains(method);
         }
+        return known;
     }
 
     private static void depth() {
